@@ -68,7 +68,8 @@ public final class OnboardingWorks {
         return number;
     }
 
-    public int role(int role, int steps) throws IndexOutOfBoundsException, IllegalArgumentException {
+    public int role(int role, int steps)
+            throws IndexOutOfBoundsException, IllegalArgumentException {
         if (role < 0 || role >= ROLES) {
             throw new IndexOutOfBoundsException("no such ROLE");
         }
@@ -93,7 +94,8 @@ public final class OnboardingWorks {
 
     // ---- kit and courses
 
-    public int stock(int item, int many) throws IndexOutOfBoundsException, IllegalArgumentException {
+    public int stock(int item, int many)
+            throws IndexOutOfBoundsException, IllegalArgumentException {
         if (item < 0 || item >= ITEMS) {
             throw new IndexOutOfBoundsException("no such ITEM");
         }

@@ -7,6 +7,7 @@ public final class KitAndCoursesTest {
         kitGoesRound();
         sessions();
         bookingOrder();
+        bookedBehindWhatWasJustBooked();
         bookedAheadAndLost();
         ofSession();
         ofItem();
@@ -46,6 +47,8 @@ public final class KitAndCoursesTest {
         Check.refused(x, Check.STATE, "6: the 21st ORDER", () -> x.order(2, 1, 10));
         Check.refused(x, Check.ARGUMENT, "6: a wrong 21st", () -> x.order(2, 1, 3));
         Check.due("6: ORDERS", x.many(2), 20);
+        Check.days(x, 7);
+        Check.due("6: all that COME on one DAY", x.ofItem(2, 0), 18);
     }
 
     private static void late() {
@@ -112,6 +115,9 @@ public final class KitAndCoursesTest {
         Check.refused(x, Check.STATE, "8: the 21st SESSION", () -> x.session(0, 2, 1));
         Check.refused(x, Check.ARGUMENT, "8: a wrong 21st", () -> x.session(1, 2, 1));
         Check.due("8: SESSIONS", x.many(3), 20);
+        x.role(0, 1);
+        x.join(0, 3);
+        Check.due("8: booked with all 20 there", x.ofStep(0, 0, 3), 1);
     }
 
     private static void bookingOrder() {
@@ -141,6 +147,21 @@ public final class KitAndCoursesTest {
         Check.due("8: all booked for an OPEN STEP goes", x.ofSession(1, 3), 0);
         x.join(0, 3);
         Check.due("8: the SEAT is there again", x.ofStep(4, 0, 3), 1);
+    }
+
+    private static void bookedBehindWhatWasJustBooked() {
+        OnboardingWorks x = new OnboardingWorks();
+        x.step(2, 2, 0, 0);
+        x.step(2, 1, 1, 0);
+        x.role(0, 3);
+        x.session(0, 4, 1);
+        x.session(1, 3, 1);
+        x.session(1, 5, 1);
+        x.session(1, 6, 1);
+        x.join(0, 1);
+        Check.due("8: the first COURSE", x.ofStep(0, 0, 3), 0);
+        Check.due("8: the second behind its SESSION", x.ofStep(0, 1, 3), 3);
+        Check.due("8: both as booked", x.ofJoiner(0, 6), 6);
     }
 
     private static void bookedAheadAndLost() {
