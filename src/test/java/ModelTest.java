@@ -2,7 +2,7 @@ import java.util.Arrays;
 
 /** Long runs of calls, each answered by the class and by NaiveOffice; wrong and wild ones, too. */
 public final class ModelTest {
-    private static final int RUNS = 120;
+    private static final int RUNS = 240;
     private static final int CALLS = 512;
     private static final int[] WILD = {
         -1, -2, 12, 13, 20, 31, 32, 33, 63, 64, 199, 200, 255, 256, 4095, 4096, 1 << 30,
@@ -36,25 +36,33 @@ public final class ModelTest {
         return (int) ((seed >>> 33) % bound);
     }
 
+    /** As many calls as an object is promised for; the 512th is a digest(). */
     private static boolean sameRun(int run) {
         OnboardingWorks x = new OnboardingWorks();
         NaiveOffice model = new NaiveOffice();
         int leaving = 1 + pick(12);
-        for (int call = 0; call < CALLS; call++) {
-            int name = call < 14 ? 0 : call < 20 ? 1 : weighted();
+        int digestEach = run % 2 == 0 ? 2 : 16;
+        int told = 0;
+        String before = "a new object";
+        for (int call = 1; call <= CALLS; call++) {
+            if (call % digestEach == 0) {
+                if (x.digest() != digest(model)) {
+                    Check.tell("digest() is not as due behind " + before);
+                    return false;
+                }
+                continue;
+            }
+            int name = told < 14 ? 0 : told < 20 ? 1 : weighted();
             if (name == 10 && pick(leaving) != 0) {
                 name = 11;
             }
+            told++;
             int[] with = arguments(name, model);
-            String got = answer(x, name, with);
-            String want = answer(model, name, with);
-            String what = "run " + run + ", call " + call + ": " + NAMES[name] + Arrays.toString(with);
+            String got = Calls.answer(x, NAMES[name], with);
+            String want = Calls.answer(model, NAMES[name], with);
+            before = "run " + run + ", call " + call + ": " + Calls.text(NAMES[name], with);
             if (!got.equals(want)) {
-                Check.tell(what + " answered " + got + ", due is " + want);
-                return false;
-            }
-            if (x.digest() != digest(model)) {
-                Check.tell("digest() is not as due behind " + what);
+                Check.tell(before + " answered " + got + ", due is " + want);
                 return false;
             }
         }
@@ -128,64 +136,6 @@ public final class ModelTest {
         int kind = pick(4);
         int of = kind == 0 ? pick(256) : pick(4);
         return new int[] {kind, 1 + pick(pick(4) == 0 ? 9 : 3), needs, of};
-    }
-
-    private static String answer(OnboardingWorks x, int name, int[] a) {
-        try {
-            switch (NAMES[name]) {
-                case "step": return "" + x.step(a[0], a[1], a[2], a[3]);
-                case "role": return "" + x.role(a[0], a[1]);
-                case "right": return "" + x.right(a[0]);
-                case "stock": return "" + x.stock(a[0], a[1]);
-                case "order": return "" + x.order(a[0], a[1], a[2]);
-                case "late": return "" + x.late(a[0], a[1]);
-                case "session": return "" + x.session(a[0], a[1], a[2]);
-                case "ofSession": return "" + x.ofSession(a[0], a[1]);
-                case "ofItem": return "" + x.ofItem(a[0], a[1]);
-                case "join": return "" + x.join(a[0], a[1]);
-                case "leave": return "" + x.leave(a[0]);
-                case "day": return "" + x.day();
-                case "ofStep": return "" + x.ofStep(a[0], a[1], a[2]);
-                case "ofJoiner": return "" + x.ofJoiner(a[0], a[1]);
-                case "many": return "" + x.many(a[0]);
-                case "meanDays": return "" + x.meanDays();
-                case "rightOn": return "" + x.rightOn(a[0], a[1]);
-                case "shiftBy": return "" + x.shiftBy(a[0], a[1]);
-                case "next": return "" + x.next(a[0]);
-                default: return "" + x.waitFor(a[0], a[1]);
-            }
-        } catch (RuntimeException e) {
-            return e.getClass().getName();
-        }
-    }
-
-    private static String answer(NaiveOffice x, int name, int[] a) {
-        try {
-            switch (NAMES[name]) {
-                case "step": return "" + x.step(a[0], a[1], a[2], a[3]);
-                case "role": return "" + x.role(a[0], a[1]);
-                case "right": return "" + x.right(a[0]);
-                case "stock": return "" + x.stock(a[0], a[1]);
-                case "order": return "" + x.order(a[0], a[1], a[2]);
-                case "late": return "" + x.late(a[0], a[1]);
-                case "session": return "" + x.session(a[0], a[1], a[2]);
-                case "ofSession": return "" + x.ofSession(a[0], a[1]);
-                case "ofItem": return "" + x.ofItem(a[0], a[1]);
-                case "join": return "" + x.join(a[0], a[1]);
-                case "leave": return "" + x.leave(a[0]);
-                case "day": return "" + x.day();
-                case "ofStep": return "" + x.ofStep(a[0], a[1], a[2]);
-                case "ofJoiner": return "" + x.ofJoiner(a[0], a[1]);
-                case "many": return "" + x.many(a[0]);
-                case "meanDays": return "" + x.meanDays();
-                case "rightOn": return "" + x.rightOn(a[0], a[1]);
-                case "shiftBy": return "" + x.shiftBy(a[0], a[1]);
-                case "next": return "" + x.next(a[0]);
-                default: return "" + x.waitFor(a[0], a[1]);
-            }
-        } catch (IllegalArgumentException | IllegalStateException | IndexOutOfBoundsException e) {
-            return e.getClass().getName();
-        }
     }
 
     private static long digest(NaiveOffice m) {

@@ -1,4 +1,4 @@
-/** Promises 18 to 22: rightOn, shiftBy, next, waitFor, digest. */
+/** Promises 18 to 21: rightOn, shiftBy, next, waitFor. */
 public final class WhatWouldBeTest {
     public static void main(String[] args) {
         rightOn();
@@ -7,7 +7,6 @@ public final class WhatWouldBeTest {
         shiftKeepsBookings();
         next();
         waitFor();
-        digest();
         Check.end();
     }
 
@@ -149,62 +148,5 @@ public final class WhatWouldBeTest {
         x.leave(0);
         x.day();
         Check.due("21: TAKEN BACK is not DONE", x.waitFor(0, 0), 1);
-    }
-
-    private static void digest() {
-        OnboardingWorks x = new OnboardingWorks();
-        Check.due("22: of a new object", x.digest(), digestOf(x));
-        x.step(0, 1, 0, 15);
-        x.step(1, 2, 1, 0);
-        x.step(2, 3, 3, 0);
-        x.role(0, 7);
-        x.role(1, 5);
-        x.right(3);
-        x.right(4);
-        x.order(0, 1, 5);
-        x.session(2, 9, 1);
-        x.join(0, 1);
-        x.join(1, 2);
-        for (int i = 0; i < 14; i++) {
-            long before = x.digest();
-            Check.due("22: on DAY " + i, before, digestOf(x));
-            Check.due("22: nothing is changed", x.digest(), before);
-            if (i == 7) {
-                x.leave(1);
-            }
-            x.day();
-        }
-    }
-
-    private static long digestOf(OnboardingWorks x) {
-        long d = 58120;
-        for (int what = 0; what <= 10; what++) {
-            d = d * 31 + x.many(what);
-        }
-        for (int i = 0; i < 16; i++) {
-            d = d * 31 + x.ofItem(i / 4, i % 4);
-        }
-        for (int i = 0; i < x.many(3) * 4; i++) {
-            d = d * 31 + x.ofSession(i / 4, i % 4);
-        }
-        for (int j = 0; j < x.many(4); j++) {
-            for (int what = 0; what <= 6; what++) {
-                d = d * 31 + x.ofJoiner(j, what);
-            }
-            d = d * 31 + x.next(j);
-            for (int r = 0; r < x.many(1); r++) {
-                d = d * 31 + x.rightOn(j, r);
-            }
-            for (int s = 0; s < 12; s++) {
-                if ((x.ofJoiner(j, 0) >> s & 1) == 0) {
-                    continue;
-                }
-                for (int what = 0; what <= 5; what++) {
-                    d = d * 31 + x.ofStep(j, s, what);
-                }
-                d = d * 31 + x.waitFor(j, s);
-            }
-        }
-        return d;
     }
 }
