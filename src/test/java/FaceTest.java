@@ -6,16 +6,29 @@ import java.lang.reflect.Modifier;
 import java.util.Arrays;
 import java.util.Set;
 import java.util.TreeSet;
+import java.util.stream.Collectors;
 
-/** The public face of the document, and nothing beside it. */
+/** The public face of the document with what it throws, and nothing beside it. */
 public final class FaceTest {
+    private static final String INDEX = "IndexOutOfBoundsException";
+    private static final String ARGUMENT = "IllegalArgumentException";
+    private static final String STATE = "IllegalStateException";
+    private static final String INDEX_ARGUMENT = INDEX + "," + ARGUMENT;
+    private static final String INDEX_STATE = INDEX + "," + STATE;
+    private static final String ARGUMENT_STATE = ARGUMENT + "," + STATE;
+    private static final String ALL_THREE = INDEX + "," + ARGUMENT + "," + STATE;
+
     private static final String[] FACE = {
-        "int step(int,int,int,int)", "int role(int,int)", "int right(int)", "int stock(int,int)",
-        "int order(int,int,int)", "int late(int,int)", "int session(int,int,int)",
-        "int ofSession(int,int)", "int ofItem(int,int)", "int join(int,int)", "int leave(int)",
-        "int day()", "int ofStep(int,int,int)", "int ofJoiner(int,int)", "int many(int)",
-        "double meanDays()", "int rightOn(int,int)", "int shiftBy(int,int)", "int next(int)",
-        "int waitFor(int,int)", "long digest()"
+        "int step(int,int,int,int) throws " + ARGUMENT_STATE, "int role(int,int) throws " + INDEX_ARGUMENT,
+        "int right(int) throws " + ARGUMENT_STATE, "int stock(int,int) throws " + INDEX_ARGUMENT,
+        "int order(int,int,int) throws " + ALL_THREE, "int late(int,int) throws " + ALL_THREE,
+        "int session(int,int,int) throws " + ALL_THREE, "int ofSession(int,int) throws " + INDEX_ARGUMENT,
+        "int ofItem(int,int) throws " + INDEX_ARGUMENT, "int join(int,int) throws " + ALL_THREE,
+        "int leave(int) throws " + INDEX_STATE, "int day() throws " + STATE,
+        "int ofStep(int,int,int) throws " + INDEX_ARGUMENT, "int ofJoiner(int,int) throws " + INDEX_ARGUMENT,
+        "int many(int) throws " + ARGUMENT, "double meanDays()", "int rightOn(int,int) throws " + INDEX,
+        "int shiftBy(int,int) throws " + ALL_THREE, "int next(int) throws " + INDEX,
+        "int waitFor(int,int) throws " + INDEX, "long digest()"
     };
 
     public static void main(String[] args) {
@@ -55,10 +68,12 @@ public final class FaceTest {
     }
 
     private static String text(Method method) {
-        StringBuilder parameters = new StringBuilder();
-        for (Class<?> parameter : method.getParameterTypes()) {
-            parameters.append(parameters.length() == 0 ? "" : ",").append(parameter.getName());
-        }
-        return method.getReturnType().getName() + " " + method.getName() + "(" + parameters + ")";
+        String thrown = names(method.getExceptionTypes());
+        return method.getReturnType().getName() + " " + method.getName()
+                + "(" + names(method.getParameterTypes()) + ")" + (thrown.isEmpty() ? "" : " throws " + thrown);
+    }
+
+    private static String names(Class<?>[] types) {
+        return Arrays.stream(types).map(Class::getSimpleName).collect(Collectors.joining(","));
     }
 }
